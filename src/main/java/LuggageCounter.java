@@ -147,12 +147,9 @@ public final class LuggageCounter {
 
     public int give(int ticket) {
         int owed = fee(ticket);
-        if (owed < 0) {
-            return owed;
-        }
         Thing thing = thingAt(ticket / 100);
-        if (thing == null) {
-            return -3;
+        if (owed < 0 || thing == null) {
+            return owed;
         }
         if (thing.how == SOLD) {
             return -5;

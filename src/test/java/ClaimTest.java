@@ -6,6 +6,7 @@ public final class ClaimTest {
         markRefuses();
         meansOnlyWhatIsIn();
         askTakesTheLeastHeap();
+        askOfAllAlike();
         askRefuses();
         settleGives();
         settleRefusesInItsOrder();
@@ -111,6 +112,21 @@ public final class ClaimTest {
         Due.is("heaps of 3, 3, 2, 6", y.ask(0), 2);
         y.mark(0, 2, 0);
         Due.is("mark 2 is told: 2, 1, -, 2", y.ask(0), 1);
+    }
+
+    private static void askOfAllAlike() {
+        LuggageCounter x = new LuggageCounter();
+        x.shelf(60, 2, false, 1);
+        x.shelf(60, 2, false, 2);
+        for (int i = 0; i < 120; i++) {
+            x.put(1, 0, false, false, 0xFFFF, 0);
+        }
+        x.claim();
+        Due.is("a heap of 120 in each", x.ask(0), 0);
+        x.mark(0, 0, 15);
+        x.mark(0, 1, 15);
+        Due.is("the lowest not told", x.ask(0), 2);
+        Due.is("means", x.means(0), 120);
     }
 
     private static void askRefuses() {

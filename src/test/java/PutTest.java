@@ -76,6 +76,9 @@ public final class PutTest {
         Due.is("shut before full", x.put(1, 0, false, false, 0, 0), -3);
         Due.is("things", x.count(1), 120);
         Due.is("in", x.count(2), 0);
+        Due.is("none of them is in the way", x.least(), 0);
+        Due.is("nor counts", x.misfit(), 0);
+        Due.is("the last of them", x.thing(119, 7), 1);
     }
 
     private static void fits() {
