@@ -3,6 +3,7 @@ public final class P08GiveTest {
     public static void main(String[] args) {
         feeComesIntoTheTill();
         feeOfNothing();
+        theLastThing();
         wrongTickets();
         noSuchThing();
         thingsThatAreGone();
@@ -40,6 +41,13 @@ public final class P08GiveTest {
         Due.is("give", x.give(11), 0);
         Due.is("how", x.thing(0, 7), 1);
         Due.is("till", x.count(8), 0);
+    }
+
+    private static void theLastThing() {
+        LuggageCounter x = Counters.full();
+        Due.is("give of thing 119", x.give(Tickets.of(119)), 10 + 1 + 16 + 3);
+        Due.is("how", x.thing(119, 7), 1);
+        Due.is("in", x.count(2), 119);
     }
 
     private static void wrongTickets() {

@@ -9,6 +9,7 @@ public final class P13SettleTest {
         meansNone();
         meansMore();
         anotherMeansItToo();
+        firstAndLastClaim();
         othersThatDontContest();
         notOpen();
         torn();
@@ -98,7 +99,14 @@ public final class P13SettleTest {
 
     private static void meansNone() {
         Unchanged.by("means none", P13SettleTest::meaningNone, x -> x.settle(2), -4);
+        Unchanged.by("means none of 120", P13SettleTest::fullMeaningNone, x -> x.settle(39), -4);
         Unchanged.by("means a given one", P13SettleTest::meaningAGivenOne, x -> x.settle(2), -4);
+    }
+
+    private static LuggageCounter fullMeaningNone() {
+        LuggageCounter x = Counters.full();
+        Counters.tell(x, 39, 15, 15, 15);
+        return x;
     }
 
     private static LuggageCounter meaningTwo() {
@@ -129,6 +137,27 @@ public final class P13SettleTest {
         x.mark(2, 2, 2);
         x.mark(2, 3, 1);
         return x;
+    }
+
+    /** Claims 0 and 39 mean thing 119 alone, with three marks each. */
+    private static LuggageCounter firstAgainstLast() {
+        LuggageCounter x = Counters.full();
+        int marks = x.thing(119, 4);
+        int[] claims = {0, 39};
+        for (int claim : claims) {
+            Counters.tell(x, claim, marks & 15, marks >> 4 & 15, marks >> 8 & 15);
+        }
+        return x;
+    }
+
+    private static void firstAndLastClaim() {
+        Due.is("claim 0 means one", firstAgainstLast().means(0), 1);
+        Unchanged.by("the first against the last", P13SettleTest::firstAgainstLast, x -> x.settle(0), -6);
+        Unchanged.by("the last against the first", P13SettleTest::firstAgainstLast, x -> x.settle(39), -6);
+        LuggageCounter x = firstAgainstLast();
+        x.mark(0, 0, -1);
+        Due.is("settle(39)", x.settle(39), 10 + 1 + 16 + 3 + 500);
+        Due.is("got", x.claimOf(39, 2), 119);
     }
 
     private static void anotherMeansItToo() {

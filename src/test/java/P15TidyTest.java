@@ -15,6 +15,7 @@ public final class P15TidyTest {
         tornShelvesAreLeftAlone();
         onlyWhatIsIn();
         nothingToTidy();
+        fullCounter();
         Due.end();
     }
 
@@ -248,6 +249,25 @@ public final class P15TidyTest {
         x.hours(1, 2);
         Due.is("the given isn't moved", x.tidy(5), 1);
         Due.is("thing 0 is", x.thing(0, 8), 1);
+    }
+
+    /** 16 shelves and 120 things; the last thing alone stands wrong, and the last shelf is the best for it. */
+    private static void fullCounter() {
+        LuggageCounter x = new LuggageCounter();
+        x.shelf(60, 2, false, 1);
+        x.shelf(60, 2, false, 1);
+        for (int i = 0; i < 119; i++) {
+            x.put(1, 0, false, false, 0, 0);
+        }
+        x.put(1, 0, false, false, 0, 49 * 60);
+        for (int i = 2; i < 16; i++) {
+            x.shelf(1, 2, false, 34 + i);
+        }
+        x.hours(1, 2);
+        Due.is("shelf 15 has 49 steps, thing 119 wants 50", x.tidy(50), 1);
+        Due.is("there", x.thing(119, 8), 15);
+        Due.is("misfit", x.misfit(), 1);
+        Due.is("tidy again", x.tidy(50), 0);
     }
 
     private static LuggageCounter emptyAndShut() {

@@ -3,10 +3,12 @@ public final class P16LeastTest {
     public static void main(String[] args) {
         noneIsIn();
         ofAllWays();
+        oneThatStandsBadly();
         keepsToWhatFits();
         roomJustEnough();
         fiveAndNotSix();
         onlyWhatIsIn();
+        fiveOfHundredAndTwenty();
         tornOnesDontCountAmongTheFive();
         tornShelvesStayAsTheyAre();
         fiveOnSixteenShelves();
@@ -40,6 +42,23 @@ public final class P16LeastTest {
         x.tidy(50);
         Due.is("greatest falls first don't find it: thing 1 goes where thing 0 should", x.misfit(), 9 + 7);
         Due.is("it's there still", x.least(), 2);
+    }
+
+    /** Every thing counts, and each once: four that want 1 and one that wants 50, which comes as the first to fifth. */
+    private static void oneThatStandsBadly() {
+        for (int bad = 0; bad < 5; bad++) {
+            LuggageCounter x = new LuggageCounter();
+            x.shelf(60, 2, false, 1);
+            for (int i = 0; i < 5; i++) {
+                x.put(1, 0, false, false, 0, i == bad ? 49 * 60 : 0);
+            }
+            Due.is("on one shelf", x.least(), 49);
+            x.shelf(60, 2, false, 2);
+            x.shelf(60, 2, false, 3);
+            Due.is("on three shelves", x.least(), 47);
+            x.shelf(60, 2, false, 50);
+            Due.is("on four shelves", x.least(), 0);
+        }
     }
 
     private static void keepsToWhatFits() {
@@ -109,6 +128,27 @@ public final class P16LeastTest {
         Days.goTo(x, 7, 0);
         x.sell(0, 5);
         Due.is("one is sold", x.least(), 10);
+    }
+
+    /** On a shelf that is full with the last five of them. */
+    private static LuggageCounter lastFiveOfHundredAndTwenty() {
+        LuggageCounter x = new LuggageCounter();
+        x.shelf(5, 2, false, 3);
+        for (int i = 0; i < 120; i++) {
+            x.put(1, 0, false, false, 0, 0);
+            if (i < 115) {
+                x.give(Tickets.of(i));
+            }
+        }
+        return x;
+    }
+
+    private static void fiveOfHundredAndTwenty() {
+        Unchanged.by("115 are given", P16LeastTest::lastFiveOfHundredAndTwenty, x -> x.least(), 10);
+        LuggageCounter x = lastFiveOfHundredAndTwenty();
+        Due.is("misfit", x.misfit(), 10);
+        x.give(Tickets.of(119));
+        Due.is("116 are given", x.least(), 8);
     }
 
     private static void tornOnesDontCountAmongTheFive() {

@@ -7,6 +7,7 @@ public final class P18PayTest {
         lessTheFee();
         coinsAndFeeAlike();
         withoutPrices();
+        theLastThing();
         wrongTickets();
         noSuchThing();
         notSold();
@@ -61,6 +62,17 @@ public final class P18PayTest {
         x.sell(0, 77);
         Due.is("all is left", x.pay(11), 77);
         Due.is("till", x.count(8), 0);
+    }
+
+    private static void theLastThing() {
+        LuggageCounter x = Counters.full();
+        Days.goTo(x, 11, 0);
+        Due.is("sell(118, 50000)", x.sell(118, 50000), 0);
+        Due.is("sell(119, 0)", x.sell(119, 0), 1);
+        int fee = x.fee(Tickets.of(118));
+        Due.is("pay of thing 118", x.pay(Tickets.of(118)), 50000 - fee);
+        Due.is("pay of thing 119, handed over", x.pay(Tickets.of(119)), -4);
+        Due.is("how", x.thing(118, 7), 3);
     }
 
     private static void wrongTickets() {
