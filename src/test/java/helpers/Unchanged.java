@@ -8,7 +8,7 @@ import java.util.function.ToIntFunction;
  * counter is made anew for each part of what is looked at.
  */
 public final class Unchanged {
-    private static final int PART = 140;
+    private static final int PART = 120;
 
     private Unchanged() {
     }
