@@ -598,7 +598,10 @@ public final class LuggageCounter {
         int greatestFall = 0;
         for (int i = 0; i < thingCount; i++) {
             Thing thing = things[i];
-            Shelf better = thing == null ? null : shelfForMove(thing);
+            if (thing == null) {
+                continue;
+            }
+            Shelf better = shelfForMove(thing);
             if (better == null) {
                 continue;
             }
